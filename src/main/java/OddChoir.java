@@ -275,6 +275,16 @@ public final class OddChoir {
         return value >= least && value <= greatest;
     }
 
+    private static int readCell(int[] cells, int spot) {
+        return spot >= 0 && spot < cells.length ? cells[spot] : NONE;
+    }
+
+    private static void writeCell(int[] cells, int spot, int value) {
+        if (spot >= 0 && spot < cells.length) {
+            cells[spot] = value;
+        }
+    }
+
     /** Does the part of the text that begins at start; false if it is not possible. */
     private boolean doPart(int start) {
         int end = text.endOfPart(start);
@@ -549,16 +559,6 @@ public final class OddChoir {
 
         private static int spotAt(int row, int place) {
             return row >= 0 && row < ROWS && place >= 0 && place < ROOM ? ROOM * row + place : NONE;
-        }
-
-        private static int readCell(int[] cells, int spot) {
-            return spot >= 0 && spot < cells.length ? cells[spot] : NONE;
-        }
-
-        private static void writeCell(int[] cells, int spot, int value) {
-            if (spot >= 0 && spot < cells.length) {
-                cells[spot] = value;
-            }
         }
 
         int numberAt(int row, int place) {
@@ -909,8 +909,8 @@ public final class OddChoir {
                 }
                 odd |= (choir.higherBehind(row, place, height) & 1) << place;
             }
-            Choir.writeCell(higherOnes, who, higher);
-            Choir.writeCell(oddBehind, who, odd);
+            writeCell(higherOnes, who, higher);
+            writeCell(oddBehind, who, odd);
         }
 
         /** Chooses who stands at this place and all to the right, and notes the best order. */
@@ -927,7 +927,7 @@ public final class OddChoir {
             for (int who = 0; who < size; who++) {
                 int bit = 1 << who;
                 if ((used & bit) == 0) {
-                    Choir.writeCell(chosen, place, bit);
+                    writeCell(chosen, place, bit);
                     // this one passes all who stand to the right now and to the left then
                     int passed = Integer.bitCount(used >> who);
                     choose(place + 1, used | bit, odd + parityOf(who, place, heard), swaps + passed);
@@ -942,14 +942,14 @@ public final class OddChoir {
         private int heardAt(int place, int used) {
             int heard = used;
             for (int tooFar = 0; tooFar < place - reach; tooFar++) {
-                heard &= ~Choir.readCell(chosen, tooFar);
+                heard &= ~readCell(chosen, tooFar);
             }
             return heard;
         }
 
         private int parityOf(int who, int place, int heard) {
-            int higher = Integer.bitCount(Choir.readCell(higherOnes, who) & heard);
-            return (higher + (Choir.readCell(oddBehind, who) >> place)) & 1;
+            int higher = Integer.bitCount(readCell(higherOnes, who) & heard);
+            return (higher + (readCell(oddBehind, who) >> place)) & 1;
         }
     }
 
@@ -1105,7 +1105,7 @@ public final class OddChoir {
 
         private Choir slotAt(int age) {
             int index = Math.floorMod(oldest + age, UNDO_ROOM);
-            return index < saved.length ? saved[index] : null;
+            return index >= 0 && index < saved.length ? saved[index] : null;
         }
     }
 }

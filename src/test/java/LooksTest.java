@@ -13,6 +13,7 @@ public final class LooksTest {
         row();
         mostAndWay();
         mostWithTheRowBehind();
+        wayAskedFirst();
         rowRefused();
         find();
         count();
@@ -140,6 +141,28 @@ public final class LooksTest {
         rowDue(x, 2, 2, 0, 1, 1, 1, 1, 160);
         x.set(1, 0);
         rowDue(x, 2, 2, 1, 1, 1, 1, 0, 160);
+        OddChoir y = new OddChoir();
+        Choirs.fill(y, 2, 100, 110, 140, 120);
+        Choirs.fill(y, 3, 125, 115, 145);
+        // 110 100 140 120 has all four by one swap, as other orders have by more
+        rowDue(y, 2, 4, 3, 1, 1, 4, 1, 140);
+        OddChoir z = new OddChoir();
+        Choirs.fill(z, 2, 100, 100, 100);
+        Choirs.fill(z, 3, 200);
+        z.set(0, 1);
+        // an ear that reaches 1 hears the first of the row behind from the places 0 and 1
+        rowDue(z, 2, 3, 2, 0, 0, 2, 0, 100);
+    }
+
+    private static void wayAskedFirst() {
+        OddChoir x = new OddChoir();
+        Choirs.fill(x, 1, 100, 200);
+        Choirs.fill(x, 3, 100, 110, 120);
+        CHECKS.due("the way before the most", 2, () -> x.row(3, 5));
+        CHECKS.due("the way of another row", 1, () -> x.row(1, 5));
+        CHECKS.due("the most of the first row", 2, () -> x.row(3, 4));
+        x.turn(1);
+        CHECKS.due("the way after a turn", 0, () -> x.row(1, 5));
     }
 
     private static void rowRefused() {

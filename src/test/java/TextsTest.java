@@ -49,11 +49,11 @@ public final class TextsTest {
     private static void misfits() {
         String[] texts = {"x", "J", ";", ":", "jx", "jo:", "low0", "turn:4", "turn:/", "join:0;", "join:0,0",
             "join:0,3", "join:0,23", "join:0,221", "join:0,15x", "join:0,150x", "join:0,150B", "join:0,150b,",
-            "join:0,150bb", "join:4", "swap:0,6", "swap:0,56", "swap:0,555", "swap:0;", "low:0,", "low:0;;",
+            "join:0,150bb", "join:0,1:", "join:0,1/", "join:0,15:", "join:0,15/", "join:4", "swap:0,6", "swap:0,56", "swap:0,555", "swap:0;", "low:0,", "low:0;;",
             "low:0;x", "high:0high", "voice:3:", "R", "low:R", "swap:0,P", "join:0,A", "lo;", "low:0;lox"};
         int[] dues = {0, 0, 0, 0, 1, 2, 3, 5, 5, 6, 7,
             7, 8, 9, 9, 10, 10, 11,
-            11, 5, 7, 8, 9, 6, 5, 6,
+            11, 8, 8, 9, 9, 5, 7, 8, 9, 6, 5, 6,
             6, 6, 7, 0, 4, 7, 7, 2, 8};
         for (int i = 0; i < texts.length; i++) {
             OddChoir x = Choirs.typed(texts[i] + "~~");

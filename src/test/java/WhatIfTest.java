@@ -14,6 +14,8 @@ public final class WhatIfTest {
         oddShare();
         digestOfNew();
         digestOfSome();
+        digestOfThirds();
+        digestOfSmallShares();
         digestHearsOfAll();
         CHECKS.close();
     }
@@ -121,6 +123,8 @@ public final class WhatIfTest {
         CHECKS.refused("ifReach 0", x, ARGUMENT, () -> x.ifReach(0));
         CHECKS.refused("ifReach 7", x, ARGUMENT, () -> x.ifReach(7));
         CHECKS.due("ifReach of nobody", 0, () -> new OddChoir().ifReach(1));
+        OddChoir y = twoRows();
+        CHECKS.due("ifReach asked first", 6, () -> y.ifReach(6));
     }
 
     private static void oddShare() {
@@ -174,6 +178,40 @@ public final class WhatIfTest {
             0, 0, 0, 0, 0, 0, -1, -1,
             1,
             0, 0, 0, 0, 0, 0, 0L, 2, 'l', 'o'), x.digest());
+    }
+
+    private static void digestOfThirds() {
+        OddChoir x = new OddChoir();
+        Choirs.fill(x, 3, 200, 100, 110);
+        CHECKS.compare("digest of three", hash(
+            3, 2, 3, 0, 0, 2, 6, 1, 3,
+            0, 0, 0, 0, 0, 0, -1, -1,
+            0, 0, 0, 0, 0, 0, -1, -1,
+            0, 0, 0, 0, 0, 0, -1, -1,
+            3, 2, 2, 0, 2, 0, 200,
+            0, 200, 0, 0, 0, 0, 0, 2,
+            1, 100, 0, 1, 1, 1, 1, 1,
+            2, 110, 0, 2, 1, 1, 1, 0,
+            -1,
+            '2', '0', '0', 'b', ' ', '1', '0', '0', 'b', ' ', '1', '1', '0', 'b',
+            2,
+            1, 2, 2, 2, 2, 2, Double.doubleToLongBits(2.0 / 3.0), 0), x.digest());
+    }
+
+    private static void digestOfSmallShares() {
+        for (int odd = 0; odd < 6; odd++) {
+            OddChoir x = new OddChoir();
+            Model model = new Model();
+            for (int singer = 0; singer < 24; singer++) {
+                x.join(singer / 6, 150, 0);
+                model.join(singer / 6, 150, 0);
+            }
+            // in the front row only those to the right hear this one
+            x.grow(0, 5 - odd, 151);
+            model.grow(0, 5 - odd, 151);
+            CHECKS.compare("share of " + odd, odd / 24.0, x.oddShare());
+            CHECKS.compare("digest with a share of " + odd, model.digest(), x.digest());
+        }
     }
 
     /** The digest differs after each call that changes something; RunsTest compares it with a model's. */
