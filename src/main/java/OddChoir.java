@@ -1,3 +1,7 @@
+/**
+ * Rows of singers who hear those to their left and those of the row behind. All that calls need is made with the
+ * object, so that a run of many calls takes no more room than the first one.
+ */
 public final class OddChoir {
     public static final int NONE = -1;
 

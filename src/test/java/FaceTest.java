@@ -79,23 +79,49 @@ public final class FaceTest {
         CHECKS.holds("that is public", Modifier.isPublic(constructors[0].getModifiers()));
     }
 
-    /** 512 of the dearest calls make next to nothing: all is made with the object. */
+    /** All calls of a run live in one room: what they need is made with the object, and nothing after it. */
     private static void room() {
-        OddChoir x = new OddChoir();
-        for (int i = 0; i < 24; i++) {
-            x.join(i / 6, 100 + i * 37 % 121, i % 4);
-        }
-        Choirs.type(x, "turn:0;low:1;high:2;voice:3;swap:0,05");
         com.sun.management.ThreadMXBean threads =
             (com.sun.management.ThreadMXBean) java.lang.management.ManagementFactory.getThreadMXBean();
-        threads.getCurrentThreadAllocatedBytes();
-        x.digest();
-        x.chant();
+        OddChoir x = new OddChoir();
+        rounds(x, 1);
         long before = threads.getCurrentThreadAllocatedBytes();
-        for (int i = 0; i < 488; i++) {
-            x.digest();
-        }
+        rounds(x, 4);
         long made = threads.getCurrentThreadAllocatedBytes() - before;
-        CHECKS.holds("bytes made by 488 digests: " + made, made < 10_000);
+        CHECKS.holds("bytes made by 400 calls: " + made, made < 10_000);
+    }
+
+    private static void rounds(OddChoir x, int rounds) {
+        String text = "turn:0;low:0;high:0;voice:0;swap:0,05;join:3,101s";
+        for (int round = 0; round < rounds; round++) {
+            for (int i = x.count(0); i < 24; i++) {
+                x.join(i / 6, 100 + i * 37 % 121, i % 4);
+            }
+            for (int i = 0; i < text.length(); i++) {
+                x.append(text.charAt(i));
+            }
+            x.firstError();
+            x.chant();
+            x.keep();
+            x.leave(3, 0);
+            x.cross(0, 0, 3);
+            x.grow(1, 1, 111);
+            x.swap(1, 0, 2, 0);
+            x.sort(1, 2);
+            x.turn(2);
+            x.set(0, 3);
+            x.restore();
+            x.undo();
+            x.bestSwap(1);
+            x.bestRow(150);
+            x.ifSwapped(1, 1, 2, 2);
+            x.ifReach(2);
+            x.oddShare();
+            x.row(1, 5);
+            x.singer(1, 5, 5);
+            x.written(1, 4);
+            x.digest();
+            x.restore();
+        }
     }
 }
