@@ -15,8 +15,9 @@ public final class FaceTest {
     private static final String ARGUMENT = "IllegalArgumentException";
     private static final String STATE = "IllegalStateException";
 
-    public static void main(String[] args) {
+    public static void main(String[] args) throws ReflectiveOperationException {
         face();
+        constant();
         onlyTheFaceIsSeen();
         room();
         CHECKS.close();
@@ -57,6 +58,13 @@ public final class FaceTest {
         CHECKS.holds("the class is public and final",
             (OddChoir.class.getModifiers() & (Modifier.PUBLIC | Modifier.FINAL)) == (Modifier.PUBLIC | Modifier.FINAL));
         CHECKS.compare("the class has no package", "", OddChoir.class.getPackageName());
+    }
+
+    private static void constant() throws ReflectiveOperationException {
+        Field none = OddChoir.class.getDeclaredField("NONE");
+        CHECKS.compare("NONE is a constant", "public static final int",
+            Modifier.toString(none.getModifiers()) + " " + none.getType());
+        CHECKS.compare("NONE", -1, none.get(null));
     }
 
     private static void onlyTheFaceIsSeen() {

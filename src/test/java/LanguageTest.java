@@ -1,12 +1,16 @@
+import com.sun.source.tree.ArrayAccessTree;
 import com.sun.source.tree.AssertTree;
 import com.sun.source.tree.AssignmentTree;
 import com.sun.source.tree.BinaryTree;
 import com.sun.source.tree.BlockTree;
 import com.sun.source.tree.ClassTree;
 import com.sun.source.tree.CompilationUnitTree;
+import com.sun.source.tree.CompoundAssignmentTree;
 import com.sun.source.tree.ImportTree;
 import com.sun.source.tree.LambdaExpressionTree;
+import com.sun.source.tree.LiteralTree;
 import com.sun.source.tree.MemberReferenceTree;
+import com.sun.source.tree.MemberSelectTree;
 import com.sun.source.tree.MethodInvocationTree;
 import com.sun.source.tree.MethodTree;
 import com.sun.source.tree.NewClassTree;
@@ -14,6 +18,7 @@ import com.sun.source.tree.SynchronizedTree;
 import com.sun.source.tree.ThrowTree;
 import com.sun.source.tree.Tree;
 import com.sun.source.tree.TryTree;
+import com.sun.source.tree.TypeCastTree;
 import com.sun.source.tree.VariableTree;
 import com.sun.source.util.JavacTask;
 import com.sun.source.util.TreePath;
@@ -30,6 +35,8 @@ import javax.lang.model.element.Element;
 import javax.lang.model.element.ElementKind;
 import javax.lang.model.element.Modifier;
 import javax.lang.model.element.TypeElement;
+import javax.lang.model.element.VariableElement;
+import javax.lang.model.type.TypeKind;
 import javax.lang.model.type.TypeMirror;
 import javax.tools.JavaCompiler;
 import javax.tools.StandardJavaFileManager;
@@ -47,6 +54,8 @@ public final class LanguageTest extends TreePathScanner<Void, Void> {
     private static final Set<String> EXCEPTIONS = Set.of("IllegalStateException", "IllegalArgumentException",
         "IndexOutOfBoundsException", "ArithmeticException", "UnsupportedOperationException",
         "NoSuchElementException", "RuntimeException");
+    private static final Set<String> TYPES = Set.of("int", "long", "short", "byte", "char", "boolean", "double",
+        "float", "String");
     private static final int MOST_LINES = 60;
     private static final int DEEPEST = 8;
 
@@ -85,6 +94,9 @@ public final class LanguageTest extends TreePathScanner<Void, Void> {
             complaints.add("rule 11: " + classes + " classes");
         }
         for (Element method : calls.keySet()) {
+            if (calls.get(method).contains(method) && !method.getModifiers().contains(Modifier.PRIVATE)) {
+                complaints.add("rule 8: " + method + " calls itself");
+            }
             int deep = deep(method, new LinkedHashSet<>());
             if (method.getModifiers().contains(Modifier.PUBLIC) && deep > DEEPEST) {
                 complaints.add("rule 11: " + method + " goes " + deep + " deep");
@@ -145,6 +157,11 @@ public final class LanguageTest extends TreePathScanner<Void, Void> {
                 complain(5, "a static field " + tree.getName(), tree);
             }
         }
+        TypeMirror type = trees.getTypeMirror(getCurrentPath());
+        String bare = tree.getType().toString().replace("[]", "");
+        if (!TYPES.contains(bare) && !type.toString().startsWith("OddChoir")) {
+            complain(3, tree.getName() + " is a " + type, tree);
+        }
         return super.visitVariable(tree, none);
     }
 
@@ -159,6 +176,9 @@ public final class LanguageTest extends TreePathScanner<Void, Void> {
         }
         if (tree.getParameters().size() > 7) {
             complain(11, tree.getName() + " has too many parameters", tree);
+        }
+        if (Set.of("equals", "hashCode", "toString", "finalize").contains(tree.getName().toString())) {
+            complain(10, tree.getName() + " is written", tree);
         }
         if (!method.getModifiers().contains(Modifier.PUBLIC) && faceNames().contains(tree.getName().toString())) {
             complain(1, tree.getName() + " bears the name of a public one", tree);
@@ -191,6 +211,9 @@ public final class LanguageTest extends TreePathScanner<Void, Void> {
         if (!own && !superCall && !LIBRARY.contains(owner + "." + called.getSimpleName())) {
             complain(4, owner + "." + called.getSimpleName(), tree);
         }
+        if (called.getSimpleName().contentEquals("charAt")) {
+            needLook(tree);
+        }
         for (TreePath path = getCurrentPath(); path != null; path = path.getParentPath()) {
             if (path.getLeaf() instanceof MethodTree && !superCall) {
                 Element caller = trees.getElement(path);
@@ -198,6 +221,17 @@ public final class LanguageTest extends TreePathScanner<Void, Void> {
             }
         }
         return super.visitMethodInvocation(tree, none);
+    }
+
+    private void needLook(MethodInvocationTree charAt) {
+        String text = ((MemberSelectTree) charAt.getMethodSelect()).getExpression().toString();
+        String index = charAt.getArguments().get(0).toString();
+        String method = methodAround().toString();
+        boolean inside = method.contains(index + " >= 0 && " + index + " < " + text + ".length()");
+        boolean outside = method.contains(index + " < 0 || " + index + " >= " + text + ".length()");
+        if (!inside && !outside) {
+            complain(7, charAt + " without a look at the index", charAt);
+        }
     }
 
     @Override
@@ -219,11 +253,73 @@ public final class LanguageTest extends TreePathScanner<Void, Void> {
         if (!(tree.getExpression() instanceof NewClassTree)) {
             complain(6, "a throw of something that is not new", tree);
         }
+        if (methodAround().getReturnType() == null) {
+            complain(6, "a throw in a constructor", tree);
+        }
         return super.visitThrow(tree, none);
+    }
+
+    private MethodTree methodAround() {
+        TreePath path = getCurrentPath();
+        while (!(path.getLeaf() instanceof MethodTree)) {
+            path = path.getParentPath();
+        }
+        return (MethodTree) path.getLeaf();
+    }
+
+    /** An index is looked at in the method that uses it: it is compared there with the length of the same array. */
+    @Override
+    public Void visitArrayAccess(ArrayAccessTree tree, Void none) {
+        String method = methodAround().toString();
+        String looked = tree.getIndex() + " < " + tree.getExpression() + ".length";
+        String notBelow = tree.getIndex() + " >= 0";
+        String counted = "int " + tree.getIndex() + " = 0";
+        if (!method.contains(looked) || !method.contains(notBelow) && !method.contains(counted)) {
+            complain(7, tree + " without a look at the index", tree);
+        }
+        return super.visitArrayAccess(tree, none);
+    }
+
+    private void needDivisor(Tree operation, Tree divisor) {
+        if (!operation.getKind().toString().matches("(DIVIDE|REMAINDER).*")) {
+            return;
+        }
+        TreePath path = new TreePath(getCurrentPath(), divisor);
+        TypeMirror type = trees.getTypeMirror(path);
+        Element named = trees.getElement(path);
+        Object value = divisor instanceof LiteralTree literal ? literal.getValue()
+            : named instanceof VariableElement constant ? constant.getConstantValue() : null;
+        boolean whole = type.getKind() != TypeKind.DOUBLE && type.getKind() != TypeKind.FLOAT;
+        if (whole && !(value instanceof Integer number && number != 0)) {
+            complain(7, operation + " by what may be 0", operation);
+        }
+    }
+
+    @Override
+    public Void visitCompoundAssignment(CompoundAssignmentTree tree, Void none) {
+        needDivisor(tree, tree.getExpression());
+        return super.visitCompoundAssignment(tree, none);
+    }
+
+    @Override
+    public Void visitTypeCast(TypeCastTree tree, Void none) {
+        if (!trees.getTypeMirror(getCurrentPath()).getKind().isPrimitive()) {
+            complain(6, "a cast of an object: " + tree, tree);
+        }
+        return super.visitTypeCast(tree, none);
+    }
+
+    @Override
+    public Void visitLiteral(LiteralTree tree, Void none) {
+        if (tree.getValue() instanceof String text && !text.chars().allMatch(code -> code >= 1 && code <= 127)) {
+            complain(4, "a sign in " + tree, tree);
+        }
+        return super.visitLiteral(tree, none);
     }
 
     @Override
     public Void visitBinary(BinaryTree tree, Void none) {
+        needDivisor(tree, tree.getRightOperand());
         for (Tree side : List.of(tree.getLeftOperand(), tree.getRightOperand())) {
             TypeMirror type = trees.getTypeMirror(new TreePath(getCurrentPath(), side));
             if (type != null && type.toString().equals("java.lang.String")) {
